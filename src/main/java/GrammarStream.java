@@ -436,10 +436,11 @@ public final class GrammarStream {
         }
 
         void setPlace(int place) {
-            clear(false);
-            if (place >= 0 && place < MOST_PLACES) {
-                heads[place / 64] = 1L << (place % 64);
-                tails[place / 64] = 1L << (place % 64);
+            takesNothing = false;
+            for (int w = 0; w < WORDS; w++) {
+                long bits = place / 64 == w ? 1L << (place % 64) : 0L;
+                heads[w] = bits;
+                tails[w] = bits;
             }
         }
 
@@ -484,7 +485,7 @@ public final class GrammarStream {
         }
 
         int held() {
-            return Math.min(size, MOST_PLACES);
+            return size < MOST_PLACES ? size : MOST_PLACES;
         }
 
         int wordsUsed() {

@@ -201,6 +201,12 @@ public final class StreamTest {
         Desk.due("noted", desk.stream.noted(999, 0), 1);
         Desk.due("not noted", desk.stream.noted(1000, 0), -1);
         Desk.due("expected", desk.stream.expected(1), false);
+        // With five behind S the 999th a would make it 6001.
+        Desk more = Desk.made("a=a;b=b;R:S b b b b b;S:a S b b b b b b|;");
+        more.feed(Desk.times("a", 999));
+        Desk.due("6001 do not fit", more.stream.expected(0), false);
+        Desk.due("6001 do not fit", more.stream.finish(), 3);
+        streamIs(more, "6001", 999, 3, 998, 1, 999, 999, 5994);
     }
 
     /** Symbols A .. , each of which is the next one, up to the token. */
@@ -427,6 +433,12 @@ public final class StreamTest {
         takes("\\_", " ");
         takes("\\.", ".");
         takes("\\a", "a");
+        takes("\\!", "!");
+        takes("\\~", "~");
+        takes("!", "!");
+        takes("~", "~");
+        takes("[\\~!]", "!~");
+        takes("[~]", "~");
         takes("\\-", "-");
         takes("[a-c x]", "abcx");
         takes("[^a-c x]", range(32, 96) + range(100, 119) + range(121, 126));

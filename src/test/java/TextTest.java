@@ -374,6 +374,14 @@ public final class TextTest {
         Desk.due("a NAME and a BIG need none", Desk.made("a=b;S:aT;T:;").stream.rule(0, 1), 2);
         faulty("a b=c;", 1, 2);
         faulty("S T:;", 1, 2);
+        // The ends of what names are made of.
+        good("za09=b;ZAZaz09:za09 AZ za09Z;AZ:;Z:;");
+        faulty("`=b;", 1, 0);
+        faulty("{=b;", 1, 0);
+        faulty("@:;", 1, 0);
+        faulty("[:;", 1, 0);
+        faulty("a/=b;", 1, 1);
+        faulty("a:=b;", 1, 1);
     }
 
     private static void conflict(String text, int... cell) {
