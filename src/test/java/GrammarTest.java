@@ -23,7 +23,7 @@ public final class GrammarTest {
     }
 
     /** Bit t for each token t, THE END too. */
-    private static int set(GrammarStream x, boolean follow, int symbol) {
+    private static int set(Desk x, boolean follow, int symbol) {
         int set = 0;
         for (int token = 0; token < 31; token++) {
             if (follow ? x.follow(symbol, token) : x.first(symbol, token)) {
@@ -34,7 +34,7 @@ public final class GrammarTest {
     }
 
     private static void first() {
-        GrammarStream x = Desk.made(SUMS).stream;
+        Desk x = Desk.made(SUMS);
         int[] sets = {0b1001, 0b10, 0b1001, 0b100, 0b1001, 0, 0};
         for (int symbol = 0; symbol < sets.length; symbol++) {
             Desk.due("first of " + symbol, set(x, false, symbol), sets[symbol]);
@@ -44,14 +44,14 @@ public final class GrammarTest {
             Desk.due("first without a token " + wrong, x.first(0, wrong), false);
         }
         // Through symbols that are empty, up to one that is not.
-        GrammarStream y = Desk.made("a=a;b=b;c=c;d=d;S:T U V d;T:a|;U:b|;V:c;").stream;
+        Desk y = Desk.made("a=a;b=b;c=c;d=d;S:T U V d;T:a|;U:b|;V:c;");
         Desk.due("through empty ones", set(y, false, 0), 0b111);
-        GrammarStream z = Desk.made("a=a;S:T;T:U;U:V;V:a|;").stream;
+        Desk z = Desk.made("a=a;S:T;T:U;U:V;V:a|;");
         Desk.due("THE END is in no FIRST", set(z, false, 0), 0b1);
     }
 
     private static void follow() {
-        GrammarStream x = Desk.made(SUMS).stream;
+        Desk x = Desk.made(SUMS);
         int[] sets = {0b1010000, 0b1010000, 0b1010010, 0b1010010, 0b1010110, 0, 0};
         for (int symbol = 0; symbol < sets.length; symbol++) {
             Desk.due("follow of " + symbol, set(x, true, symbol), sets[symbol]);
@@ -61,18 +61,18 @@ public final class GrammarTest {
             Desk.due("follow without a token " + wrong, x.follow(0, wrong), false);
         }
         // T does not come from THE START: what it puts behind others counts for nothing.
-        GrammarStream y = Desk.made("a=a;b=b;S:U;T:S b;U:;").stream;
+        Desk y = Desk.made("a=a;b=b;S:U;T:S b;U:;");
         Desk.due("follow of S", set(y, true, 0), 0b100);
         Desk.due("follow of T", set(y, true, 1), 0);
         Desk.due("follow of U", set(y, true, 2), 0b100);
-        GrammarStream z = Desk.made("a=a;b=b;S:T U V;T:a|;U:b|;V:;").stream;
+        Desk z = Desk.made("a=a;b=b;S:T U V;T:a|;U:b|;V:;");
         Desk.due("over empty ones", set(z, true, 1), 0b110);
         Desk.due("and behind", set(z, true, 2), 0b100);
-        Desk.due("START within", set(Desk.made("a=a;b=b;S:a S b|;").stream, true, 0), 0b110);
+        Desk.due("START within", set(Desk.made("a=a;b=b;S:a S b|;"), true, 0), 0b110);
     }
 
     private static void empty() {
-        GrammarStream x = Desk.made("a=a;b=b;S:T U;T:|a;U:|b;V:a V|b S;").stream;
+        Desk x = Desk.made("a=a;b=b;S:T U;T:|a;U:|b;V:a V|b S;");
         boolean[] empty = {true, true, true, false, false};
         for (int symbol = 0; symbol < empty.length; symbol++) {
             Desk.due("empty " + symbol, x.empty(symbol), empty[symbol]);
@@ -80,14 +80,14 @@ public final class GrammarTest {
         for (int wrong : WRONG) {
             Desk.due("empty " + wrong, x.empty(wrong), false);
         }
-        GrammarStream y = Desk.made("S:T;T:U U;U:V;V:;").stream;
+        Desk y = Desk.made("S:T;T:U U;U:V;V:;");
         for (int symbol = 0; symbol < 4; symbol++) {
             Desk.due("empty in a chain " + symbol, y.empty(symbol), true);
         }
     }
 
     private static void cell() {
-        GrammarStream x = Desk.made(SUMS).stream;
+        Desk x = Desk.made(SUMS);
         int[][] cells = {
             {0, -1, -1, 0, -1, -1, -1},
             {-1, 1, -1, -1, 2, -1, 2},
@@ -105,18 +105,18 @@ public final class GrammarTest {
             Desk.due("cell of no symbol " + wrong, x.cell(wrong, 0), -1);
             Desk.due("cell without a token " + wrong, x.cell(0, wrong), -1);
         }
-        GrammarStream y = Desk.made("a=a;b=b;S:T b;T:U;U:a|;").stream;
+        Desk y = Desk.made("a=a;b=b;S:T b;T:U;U:a|;");
         Desk.due("a row that is empty as a whole", y.cell(1, 1), 1);
         Desk.due("and begins with a", y.cell(1, 0), 1);
         Desk.due("not before THE END", y.cell(1, 2), -1);
-        GrammarStream z = Desk.made("a=a;S:;T:a|;").stream;
+        Desk z = Desk.made("a=a;S:;T:a|;");
         Desk.due("nothing follows T", z.cell(1, 1), -1);
         Desk.due("but it begins with a", z.cell(1, 0), 1);
     }
 
     private static void many(Desk desk, int... numbers) {
         for (int what = 0; what < numbers.length; what++) {
-            Desk.due("many " + what, desk.stream.many(what), numbers[what]);
+            Desk.due("many " + what, desk.many(what), numbers[what]);
         }
     }
 
@@ -126,7 +126,7 @@ public final class GrammarTest {
         desk.type("abc");
         many(desk, 6, 5, 8, 6, 7, 7, 3);
         for (int wrong : new int[] {Integer.MIN_VALUE, -1, 7, Integer.MAX_VALUE}) {
-            Desk.due("many " + wrong, desk.stream.many(wrong), -1);
+            Desk.due("many " + wrong, desk.many(wrong), -1);
         }
         many(Desk.made("S:;"), 0, 1, 1, 0, 1, 0, 0);
     }
@@ -145,7 +145,7 @@ public final class GrammarTest {
     }
 
     private static void rule() {
-        GrammarStream x = Desk.made("a=a;b=b;S:a T a;T:U|;U:b S b S b S b S;").stream;
+        Desk x = Desk.made("a=a;b=b;S:a T a;T:U|;U:b S b S b S b S;");
         int[][] rules = {
             {0, 3, 0, -1001, 0, -1},
             {1, 1, -1002, -1, -1, -1},
@@ -162,7 +162,7 @@ public final class GrammarTest {
             Desk.due("rule 0 " + wrong, x.rule(0, wrong), -1);
         }
         // Rules are in the order of the text, symbols in that of their first statements.
-        GrammarStream y = Desk.made("T:b T;S:b S;T:a S|;S:|a;a=a;b=b;").stream;
+        Desk y = Desk.made("T:b T;S:b S;T:a S|;S:|a;a=a;b=b;");
         int[] symbols = {0, 1, 0, 0, 1, 1};
         for (int rule = 0; rule < symbols.length; rule++) {
             Desk.due("symbol of rule " + rule, y.rule(rule, 0), symbols[rule]);
@@ -171,7 +171,7 @@ public final class GrammarTest {
     }
 
     private static void token() {
-        GrammarStream x = Desk.made("a=x;-b=y;c=zz;S:a;").stream;
+        Desk x = Desk.made("a=x;-b=y;c=zz;S:a;");
         Desk.due("a", x.token(0, 0), 0);
         Desk.due("b", x.token(1, 0), 1);
         Desk.due("c", x.token(2, 0), 0);
@@ -184,7 +184,7 @@ public final class GrammarTest {
     }
 
     private static void shortest(String text, int... lengths) {
-        GrammarStream x = Desk.made(text).stream;
+        Desk x = Desk.made(text);
         for (int token = 0; token < lengths.length; token++) {
             Desk.due("shortest row of " + token + " in " + text, x.token(token, 1), lengths[token]);
         }
@@ -202,7 +202,7 @@ public final class GrammarTest {
     }
 
     private static void count() {
-        GrammarStream x = Desk.made("l=\\(;r=\\);S:l S r S|;").stream;
+        Desk x = Desk.made("l=\\(;r=\\);S:l S r S|;");
         BigInteger catalan = BigInteger.ONE;
         for (int n = 0; n <= 40; n += 2) {
             Desk.due("count " + n, x.count(n), catalan.longValue());
@@ -213,22 +213,22 @@ public final class GrammarTest {
         for (int wrong : new int[] {Integer.MIN_VALUE, -1, 41, Integer.MAX_VALUE}) {
             Desk.due("count " + wrong, x.count(wrong), -1);
         }
-        GrammarStream y = Desk.made("S:T T;T:U;U:;").stream;
+        Desk y = Desk.made("S:T T;T:U;U:;");
         Desk.due("the row of no tokens", y.count(0), 1);
         Desk.due("no other one", y.count(1) + y.count(40), 0);
         // a, b or nothing; then c; then anything of these again.
-        GrammarStream z = Desk.made("a=a;b=b;c=c;S:T c U;T:a|b|;U:S|;").stream;
+        Desk z = Desk.made("a=a;b=b;c=c;S:T c U;T:a|b|;U:S|;");
         long[] rows = {0, 1, 3, 5, 11, 21};
         for (int n = 0; n < rows.length; n++) {
             Desk.due("count " + n, z.count(n), rows[n]);
         }
         // Symbols told behind those that need them, and one that goes round without coming from THE START.
-        GrammarStream w = Desk.made("a=a;b=b;S:T U;T:V;U:b U|;V:a V|;X:X|;").stream;
+        Desk w = Desk.made("a=a;b=b;S:T U;T:V;U:b U|;V:a V|;X:X|;");
         Desk.due("count 7", w.count(7), 8);
     }
 
     private static void countLowestBits() {
-        GrammarStream x = Desk.made("a=a;b=b;c=c;S:T S|;T:a|b|c;").stream;
+        Desk x = Desk.made("a=a;b=b;c=c;S:T S|;T:a|b|c;");
         for (int n = 40; n >= 0; n--) {
             Desk.due("3 to the power of " + n, x.count(n), BigInteger.valueOf(3).pow(n).longValue());
         }
@@ -236,11 +236,11 @@ public final class GrammarTest {
 
     private static void countOfAnotherText() {
         Desk desk = Desk.made("a=a;S:a S|;");
-        Desk.due("count", desk.stream.count(5), 1);
+        Desk.due("count", desk.count(5), 1);
         desk.build("a=a;b=b;S:T T;T:a|b;");
-        Desk.due("count 2", desk.stream.count(2), 4);
-        Desk.due("count 5", desk.stream.count(5), 0);
+        Desk.due("count 2", desk.count(2), 4);
+        Desk.due("count 5", desk.count(5), 0);
         desk.build("S:|;");
-        Desk.due("what there was stays", desk.stream.count(2), 4);
+        Desk.due("what there was stays", desk.count(2), 4);
     }
 }

@@ -9,12 +9,17 @@ public final class ModelTest {
 
     private static String told = "";
     private static final int[] outcomes = new int[14];
+    private static int fullRuns = 0;
 
     public static void main(String[] args) {
         int runs = args.length > 0 ? Integer.parseInt(args[0]) : RUNS;
         long seed = args.length > 1 ? Long.parseLong(args[1]) : 1;
         for (int run = 0; run < runs; run++) {
-            oneRun(new Random(seed * 1000003 + run));
+            try {
+                oneRun(new Random(seed * 1000003 + run));
+            } catch (Desk.OutOfCalls end) {
+                fullRuns++;
+            }
         }
         for (int number = 1; number <= 9; number++) {
             // 7 needs texts that are longer than these.
@@ -22,7 +27,7 @@ public final class ModelTest {
         }
         Desk.due("good texts", outcomes[0] > runs / 4, true);
         Desk.due("conflicts", outcomes[10] > 0, true);
-        System.out.println("good " + outcomes[0] + ", conflicts " + outcomes[10]);
+        System.out.println("good " + outcomes[0] + ", conflicts " + outcomes[10] + ", all calls used " + fullRuns);
         System.out.println("streams accepted " + outcomes[11] + ", error 1 " + outcomes[12] + ", 2 " + outcomes[13]);
         Desk.end();
     }
@@ -42,21 +47,30 @@ public final class ModelTest {
             told = text;
             Model model = new Model(text);
             due("typed", desk.type(text), text.length());
-            due("build", desk.stream.build(), model.answer());
-            faultIs(desk.stream, model);
+            due("build", desk.build(), model.answer());
+            faultIs(desk, model);
             if (model.answer() == 0) {
                 made = model;
                 outcomes[0]++;
             }
             if (made != null) {
-                grammarIs(desk.stream, made);
-                machineIs(desk.stream, made);
-                streams(desk, made, random);
+                lookAt(desk, made, random);
             }
         }
     }
 
-    private static void faultIs(GrammarStream x, Model model) {
+    /** Not at all each time: a run that looks less at the first texts has calls for later ones. */
+    private static void lookAt(Desk desk, Model made, Random random) {
+        if (random.nextInt(2) == 0) {
+            machineIs(desk, made);
+        }
+        if (random.nextInt(3) == 0) {
+            grammarIs(desk, made);
+        }
+        streams(desk, made, random);
+    }
+
+    private static void faultIs(Desk x, Model model) {
         due("fault 0", x.fault(0), model.faultNumber);
         due("fault 1", x.fault(1), model.faultNumber == 0 ? 0 : model.faultPlace);
         outcomes[model.faultNumber] += model.faultNumber == 0 ? 0 : 1;
@@ -67,7 +81,7 @@ public final class ModelTest {
         }
     }
 
-    private static void grammarIs(GrammarStream x, Model model) {
+    private static void grammarIs(Desk x, Model model) {
         int tokens = model.tokens.size();
         due("many 0", x.many(0), tokens);
         due("many 1", x.many(1), model.symbols.size());
@@ -97,7 +111,7 @@ public final class ModelTest {
         }
     }
 
-    private static void machineIs(GrammarStream x, Model model) {
+    private static void machineIs(Desk x, Model model) {
         due("many 3", x.many(3), model.placeCount);
         due("many 4", x.many(4), model.ways.size());
         due("many 5", x.many(5), model.hopefulCount());
@@ -154,9 +168,9 @@ public final class ModelTest {
     }
 
     private static void streams(Desk desk, Model model, Random random) {
-        for (int k = 0; k < 4; k++) {
+        for (int k = 0; k < 2; k++) {
             String bytes = k % 2 == 0 ? bytes(model, random) : goodBytes(model, random);
-            desk.stream.reset();
+            desk.reset();
             String fed = "";
             while (!bytes.isEmpty()) {
                 int n = Math.min(bytes.length(), 1 + random.nextInt(8));
@@ -165,21 +179,25 @@ public final class ModelTest {
                 fed += piece;
                 ModelStream stream = new ModelStream(model, fed, false);
                 due("feed of " + fed, desk.feed(piece), stream.error);
-                streamIs(desk.stream, model, stream, fed, false);
+                if (random.nextInt(6) == 0) {
+                    streamIs(desk, model, stream, fed, false);
+                }
             }
             if (random.nextInt(8) > 0) {
                 ModelStream stream = new ModelStream(model, fed, true);
-                due("finish of " + fed, desk.stream.finish(), stream.error);
-                streamIs(desk.stream, model, stream, fed, true);
-                due("finish again", desk.stream.finish(), stream.error);
+                due("finish of " + fed, desk.finish(), stream.error);
+                if (random.nextInt(2) == 0) {
+                    streamIs(desk, model, stream, fed, true);
+                }
+                due("finish again", desk.finish(), stream.error);
                 due("feed", desk.feed("x"), -1);
                 outcomes[11 + Math.min(stream.error, 2)]++;
             }
-            due("bytes", desk.stream.stream(0), fed.length());
+            due("bytes", desk.stream(0), fed.length());
         }
     }
 
-    private static void streamIs(GrammarStream x, Model model, ModelStream stream, String fed, boolean finished) {
+    private static void streamIs(Desk x, Model model, ModelStream stream, String fed, boolean finished) {
         int[] due = {fed.length(), stream.error, stream.error == 0 ? -1 : stream.errorPlace, finished ? 1 : 0,
             stream.found.size(), stream.noted.size(), stream.pileSize()};
         for (int token = -1; token <= model.tokens.size() + 1; token++) {

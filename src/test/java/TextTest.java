@@ -23,7 +23,7 @@ public final class TextTest {
     }
 
     private static void newObject() {
-        GrammarStream x = new GrammarStream();
+        Desk x = new Desk();
         for (int what = 0; what <= 6; what++) {
             Desk.due("new many " + what, x.many(what), 0);
             Desk.due("new stream " + what, x.stream(what), what == 2 ? -1 : 0);
@@ -53,7 +53,7 @@ public final class TextTest {
     }
 
     private static void type() {
-        GrammarStream x = new GrammarStream();
+        Desk x = new Desk();
         for (int n : new int[] {Integer.MIN_VALUE, -1, 0, 9, Integer.MAX_VALUE}) {
             Desk.due("type n " + n, x.type(97, n), -1);
         }
@@ -73,35 +73,35 @@ public final class TextTest {
     private static void typeIsFull() {
         Desk desk = new Desk();
         for (int k = 1; k <= 249; k++) {
-            desk.stream.type(0x2020202020202020L, 8);
+            desk.type(0x2020202020202020L, 8);
         }
         Desk.due("1996", desk.type("    "), 1996);
         Desk.due("5 more", desk.type("S:;  "), -2);
         Desk.due("8 more", desk.type("S:;     "), -2);
-        Desk.due("n before FULL", desk.stream.type(0, 9), -1);
-        Desk.due("none came", desk.stream.many(6), 1996);
+        Desk.due("n before FULL", desk.type(0, 9), -1);
+        Desk.due("none came", desk.many(6), 1996);
         Desk.due("4 more", desk.type(" S:;"), 2000);
         Desk.due("1 more", desk.type(" "), -2);
-        Desk.due("build", desk.stream.build(), 0);
+        Desk.due("build", desk.build(), 0);
         Desk.due("room again", desk.type(" "), 1);
     }
 
     private static void build() {
         Desk desk = new Desk();
         Desk.due("a good text", desk.build("a=b;S:a;"), 0);
-        Desk.due("the tape is empty", desk.stream.many(6), 0);
+        Desk.due("the tape is empty", desk.many(6), 0);
         desk.feed("b");
         Desk.due("another one", desk.build("a=b;c=d;S:a T;T:c;"), 0);
-        Desk.due("in place of what there was", desk.stream.many(0) * 10 + desk.stream.many(1), 22);
-        Desk.due("no bytes", desk.stream.stream(0), 0);
-        desk.stream.finish();
+        Desk.due("in place of what there was", desk.many(0) * 10 + desk.many(1), 22);
+        Desk.due("no bytes", desk.stream(0), 0);
+        desk.finish();
         Desk.due("again", desk.build("S:;"), 0);
-        Desk.due("not finished", desk.stream.stream(3), 0);
-        Desk.due("no error", desk.stream.stream(1), 0);
-        Desk.due("the pile", desk.stream.stream(6), 1);
+        Desk.due("not finished", desk.stream(3), 0);
+        Desk.due("no error", desk.stream(1), 0);
+        Desk.due("the pile", desk.stream(6), 1);
         Desk.due("no text", desk.build(""), -10);
         Desk.due("a third one", desk.build("x=y;S:x;"), 0);
-        Desk.due("tokens", desk.stream.many(0), 1);
+        Desk.due("tokens", desk.many(0), 1);
     }
 
     private static void buildLeavesWhatThereWas() {
@@ -111,64 +111,69 @@ public final class TextTest {
         int[] answers = {-12, -12, -10, -10, -3, -2};
         for (int k = 0; k < texts.length; k++) {
             Desk.due("build of " + texts[k], desk.build(texts[k]), answers[k]);
-            Desk.due("the tape is empty", desk.stream.many(6), 0);
-            Desk.due("tokens stay", desk.stream.many(0), 1);
-            Desk.due("rules stay", desk.stream.many(2), 2);
-            Desk.due("states stay", desk.stream.many(4), 2);
-            Desk.due("cells stay", desk.stream.cell(0, 1), 1);
-            Desk.due("counts stay", desk.stream.count(3), 1);
-            Desk.due("the stream stays", desk.stream.stream(0), 3 + k);
-            Desk.due("its tokens stay", desk.stream.stream(4), 2 + k);
+            Desk.due("the tape is empty", desk.many(6), 0);
+            Desk.due("tokens stay", desk.many(0), 1);
+            Desk.due("rules stay", desk.many(2), 2);
+            Desk.due("states stay", desk.many(4), 2);
+            Desk.due("cells stay", desk.cell(0, 1), 1);
+            Desk.due("counts stay", desk.count(3), 1);
+            Desk.due("the stream stays", desk.stream(0), 3 + k);
+            Desk.due("its tokens stay", desk.stream(4), 2 + k);
             Desk.due("it goes on", desk.feed("b"), 0);
         }
-        Desk.due("accepted", desk.stream.finish(), 0);
-        Desk.due("tokens", desk.stream.stream(4), 9);
+        Desk.due("accepted", desk.finish(), 0);
+        Desk.due("tokens", desk.stream(4), 9);
+    }
+
+    /** The states of a text of a token that is so many bytes long, and places of one that is one of so many. */
+    private static Desk desk(String exp, int answer) {
+        Desk desk = new Desk();
+        Desk.due("build of " + exp, desk.build("a=" + exp + ";S:a;"), answer);
+        Desk.due("no fault", desk.fault(0), 0);
+        Desk.due("no fault's place", desk.fault(1), 0);
+        Desk.due("no conflict", desk.conflict(0), -1);
+        Desk.due("the tape is empty", desk.many(6), 0);
+        return desk;
     }
 
     private static void buildIsFull() {
-        Desk desk = new Desk();
-        Desk.due("400 states", desk.build("a=" + Desk.times("x", 399) + ";S:a;"), 0);
-        Desk.due("states", desk.stream.many(4), 400);
-        Desk.due("401 states", desk.build("a=" + Desk.times("x", 400) + ";S:a;"), -2);
-        Desk.due("no fault", desk.stream.fault(0), 0);
-        Desk.due("no conflict", desk.stream.conflict(0), -1);
-        Desk.due("601 places in brackets", desk.build("a=(" + Desk.times("x|", 599) + "x)y;S:a;"), -2);
-        Desk.due("600 places", desk.build("a=" + Desk.times("x|", 599) + "x;S:a;"), 0);
-        Desk.due("places", desk.stream.many(3), 600);
-        Desk.due("states", desk.stream.many(4), 2);
-        Desk.due("601 places", desk.build("a=" + Desk.times("x|", 600) + "x;S:a;"), -2);
-        Desk.due("FULL behind faults", desk.build("a=" + Desk.times("x|", 600) + "x*;S:a;"), -12);
-        Desk.due("fault", desk.stream.fault(0), 6);
-        Desk.due("FULL behind fault 9", desk.build("a=" + Desk.times("x|", 600) + "x;S:S;"), -10 - 1204);
-        Desk.due("FULL before CONFLICT", desk.build("a=" + Desk.times("x|", 600) + "x;S:a|a;"), -2);
-        Desk.due("not a CONFLICT", desk.stream.conflict(0), -1);
+        Desk.due("states", desk(Desk.times("x", 398), 0).many(4), 399);
+        Desk.due("states", desk(Desk.times("x", 399), 0).many(4), 400);
+        Desk.due("nothing is made", desk(Desk.times("x", 400), -2).many(4), 0);
+        Desk.due("places", desk(Desk.times("x|", 598) + "x", 0).many(3), 599);
+        Desk most = desk(Desk.times("x|", 599) + "x", 0);
+        Desk.due("places", most.many(3), 600);
+        Desk.due("states", most.many(4), 2);
+        Desk.due("nothing is made", desk(Desk.times("x|", 600) + "x", -2).many(3), 0);
+        Desk.due("brackets are no places", desk("(" + Desk.times("x|", 599) + "x)", 0).many(3), 600);
+        desk("(" + Desk.times("x|", 599) + "x)y", -2);
         // Sets of the last nine letters: twice as many states for each.
-        Desk.due("many states", desk.build("a=[xy]*x" + Desk.times("[xy]", 8) + ";S:a;"), -2);
-        Desk.due("less states", desk.build("a=[xy]*x" + Desk.times("[xy]", 7) + ";S:a;"), 0);
-        Desk.due("states", desk.stream.many(4), 257);
+        desk("[xy]*x" + Desk.times("[xy]", 8), -2);
+        Desk.due("states", desk("[xy]*x" + Desk.times("[xy]", 7), 0).many(4), 257);
+        String tooMany = "a=" + Desk.times("x|", 600) + "x";
+        faulty(tooMany + "*;S:a;", 6, 2);
+        faulty(tooMany + ";S:S;", 9, 1204);
+        faulty(tooMany + ";", 8, 1204);
+        Desk.due("FULL before CONFLICT", new Desk().build(tooMany + ";S:a|a;"), -2);
     }
 
     private static void fault() {
         Desk desk = new Desk();
         Desk.due("build", desk.build("a=b;S:a c;"), -18);
-        Desk.due("which", desk.stream.fault(0), 3);
-        Desk.due("where", desk.stream.fault(1), 8);
+        Desk.due("which", desk.fault(0), 3);
+        Desk.due("where", desk.fault(1), 8);
         for (int what : WRONG) {
-            Desk.due("fault " + what, desk.stream.fault(what), -1);
+            Desk.due("fault " + what, desk.fault(what), -1);
         }
         desk.type("S:;");
-        Desk.due("of the latest build", desk.stream.fault(1), 8);
-        Desk.due("build", desk.stream.build(), 0);
-        Desk.due("which", desk.stream.fault(0), 0);
-        Desk.due("where", desk.stream.fault(1), 0);
+        Desk.due("of the latest build", desk.fault(1), 8);
+        Desk.due("build", desk.build(), 0);
+        Desk.due("which", desk.fault(0), 0);
+        Desk.due("where", desk.fault(1), 0);
     }
 
     private static void faulty(String text, int number, int place) {
-        Desk desk = new Desk();
-        Desk.due("build of " + text, desk.build(text), -10 - place);
-        Desk.due("fault of " + text, desk.stream.fault(0), number);
-        Desk.due("place in " + text, desk.stream.fault(1), place);
-        Desk.due("nothing is made of " + text, desk.stream.many(1), 0);
+        Desk.faulty(text, number, place);
     }
 
     private static void good(String text) {
@@ -369,9 +374,9 @@ public final class TextTest {
         Desk tight = Desk.made("-w=\\_;n=[^0-9]+|(b?c)*d;S:n Tn|;T:;Tn:;");
         Desk loose = Desk.made("\t- w = \\_ ; n\r=\n[ ^ 0 - 9 ] + | ( b ? c ) * d ; S : n Tn | ; T : ; Tn : ; ");
         for (int what = 0; what <= 6; what++) {
-            Desk.due("many " + what, loose.stream.many(what), tight.stream.many(what));
+            Desk.due("many " + what, loose.many(what), tight.many(what));
         }
-        Desk.due("a NAME and a BIG need none", Desk.made("a=b;S:aT;T:;").stream.rule(0, 1), 2);
+        Desk.due("a NAME and a BIG need none", Desk.made("a=b;S:aT;T:;").rule(0, 1), 2);
         faulty("a b=c;", 1, 2);
         faulty("S T:;", 1, 2);
         // The ends of what names are made of.
@@ -388,16 +393,16 @@ public final class TextTest {
         Desk desk = new Desk();
         Desk.due("build of " + text, desk.build(text), -3);
         for (int what = 0; what < 4; what++) {
-            Desk.due("conflict of " + text + " " + what, desk.stream.conflict(what), cell[what]);
+            Desk.due("conflict of " + text + " " + what, desk.conflict(what), cell[what]);
         }
-        Desk.due("no fault", desk.stream.fault(0) + desk.stream.fault(1), 0);
-        Desk.due("conflict(-1)", desk.stream.conflict(-1), -1);
-        Desk.due("conflict(4)", desk.stream.conflict(4), -1);
+        Desk.due("no fault", desk.fault(0) + desk.fault(1), 0);
+        Desk.due("conflict(-1)", desk.conflict(-1), -1);
+        Desk.due("conflict(4)", desk.conflict(4), -1);
         desk.type("S");
-        Desk.due("of the latest build", desk.stream.conflict(0), cell[0]);
+        Desk.due("of the latest build", desk.conflict(0), cell[0]);
         desk.type(":;");
-        Desk.due("build", desk.stream.build(), 0);
-        Desk.due("it was none", desk.stream.conflict(0), -1);
+        Desk.due("build", desk.build(), 0);
+        Desk.due("it was none", desk.conflict(0), -1);
     }
 
     private static void conflict() {

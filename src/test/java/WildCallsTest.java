@@ -17,22 +17,22 @@ public final class WildCallsTest {
         Desk.end();
     }
 
+    /** Goes on until the desk has no calls more. */
     private static long oneRun(int seed) {
         Random random = new Random(seed);
         RandomText texts = new RandomText(random);
         Desk desk = new Desk();
         long answers = 0;
-        int calls = 0;
-        while (calls < CALLS) {
-            int before = calls;
-            if (random.nextInt(20) == 0) {
-                String text = texts.next();
-                desk.type(text);
-                calls += text.length() / 8;
+        try {
+            for (int n = 0; n <= CALLS; n++) {
+                if (random.nextInt(20) == 0) {
+                    desk.type(texts.next());
+                }
+                answers = answers * 31 + call(desk, random);
             }
-            answers = answers * 31 + call(desk.stream, random);
-            calls++;
-            Desk.due("calls go on", calls > before, true);
+            Desk.due("all calls were made in run " + seed, false, true);
+        } catch (Desk.OutOfCalls end) {
+            return answers;
         }
         return answers;
     }
@@ -50,12 +50,12 @@ public final class WildCallsTest {
         return bytes;
     }
 
-    private static long call(GrammarStream x, Random random) {
+    private static long call(Desk x, Random random) {
         int a = any(random);
         int b = any(random);
         switch (random.nextInt(24)) {
             case 0:
-                return random.nextInt(5) == 0 ? x.type(random.nextLong(), a) : 0;
+                return x.type(random.nextInt(5) == 0 ? random.nextLong() : Desk.packed(" "), random.nextInt(5) == 0 ? a : 1);
             case 1:
                 return x.build();
             case 2:
