@@ -15,6 +15,7 @@ public final class BuildEdgesTest {
         faultBehindAllBytes();
         tapeIsEmptyBehindEachBuild();
         anotherBuildReadsTheNewTapeAlone();
+        textsBehindOthersAreAsOnANewDesk();
         whatThereWasStays();
         errorAndEndStay();
         nothingStaysNothing();
@@ -150,6 +151,10 @@ public final class BuildEdgesTest {
         Desk.due("what did not come is not read", other.build(), -2010);
         Desk.due("fault", other.fault(0), 1);
         Desk.due("its place", other.fault(1), 2000);
+        Desk full = new Desk();
+        full.type(blanks(1997) + "a=\\");
+        Desk.due("a \\ at the last place", full.build(), -2010);
+        Desk.due("fault", full.fault(0), 1);
         Desk.due("room again", other.type("S:;"), 3);
         Desk.due("build", other.build(), 0);
     }
@@ -193,6 +198,90 @@ public final class BuildEdgesTest {
         Desk.due("no symbol of the last one", desk.build("a=x;T:S;"), -16);
         Desk.due("two halves of a text", desk.build("a=x;S:"), -16);
         Desk.due("two halves of a text", desk.build("a;"), -11);
+        // Bytes of the last text stand behind the new one's end.
+        desk.build("a=\\n;S:a;");
+        Desk.due("more must come behind a \\", desk.build("a=\\"), -13);
+        Desk.due("more must come behind a set's \\", desk.build("a=[\\"), -14);
+        Desk.due("build", desk.build("abc:=x;S:;"), -13);
+        Desk.due("more must come behind a name", desk.build("ab"), -12);
+    }
+
+    /** All that can be asked of a desk, as one number. */
+    private static long looks(Desk desk) {
+        long sum = 0;
+        for (int what = 0; what <= 6; what++) {
+            sum = sum * 31 + desk.many(what);
+            sum = sum * 31 + desk.stream(what);
+        }
+        for (int symbol = 0; symbol < 3; symbol++) {
+            sum = sum * 31 + (desk.empty(symbol) ? 1 : 0);
+            for (int token = 0; token < 4; token++) {
+                sum = sum * 31 + desk.cell(symbol, token);
+                sum = sum * 31 + (desk.first(symbol, token) ? 1 : 0);
+                sum = sum * 31 + (desk.follow(symbol, token) ? 1 : 0);
+            }
+        }
+        for (int k = 0; k < 4; k++) {
+            sum = sum * 31 + desk.token(k, 0);
+            sum = sum * 31 + desk.token(k, 1);
+            sum = sum * 31 + desk.rule(k, 0);
+            sum = sum * 31 + desk.rule(k, 3);
+            sum = sum * 31 + desk.count(k);
+            sum = sum * 31 + (desk.expected(k) ? 1 : 0);
+            sum = sum * 31 + desk.found(k, 0);
+            sum = sum * 31 + desk.noted(k, 0);
+            sum = sum * 31 + desk.noted(k, 2);
+        }
+        return sum;
+    }
+
+    private static long looksOfStreams(Desk desk) {
+        long sum = looks(desk);
+        for (String bytes : new String[] {"x", "xy", "yx", "xyxy", "xxy", "z"}) {
+            sum = sum * 31 + desk.feed(bytes);
+            sum = sum * 31 + desk.finish();
+            sum = sum * 31 + desk.stream(4);
+            sum = sum * 31 + desk.stream(5);
+            sum = sum * 31 + desk.stream(6);
+            sum = sum * 31 + desk.reset();
+        }
+        return sum;
+    }
+
+    /** In place of what there was: nothing of earlier texts is left, whatever they were. */
+    private static void textsBehindOthersAreAsOnANewDesk() {
+        String[] texts = {"a=x;b=y;S:a T|;T:b S;", "a=xy;S:a S|;", "S:;", "b=y;a=x;S:b|a T;T:b T|;U:T a;",
+            "a=[^x];b=x+y*;-c=z;S:a|b S;", "b=x[^\\_-~];a=x(yx)*;S:a S|;", "a=xyz;b=x;c=y;S:T c;T:b|;U:a;",
+            "a=x;b=y;S:a T b;T:;U:b;"};
+        String[] refused = {"", "a=[x-z];b=u;S:a", "a=x*;S:a;", "c=x;d=y;S:c|d|c;T:S;", "a=x;S:S a;", STATES_401};
+        for (String text : texts) {
+            long due = looksOfStreams(Desk.made(text));
+            for (String one : texts) {
+                for (String other : texts) {
+                    Desk desk = new Desk();
+                    desk.build(one);
+                    desk.count(40);
+                    desk.feed("xyxyx");
+                    desk.build(other);
+                    desk.feed("xyxyx");
+                    Desk.due("build", desk.build(text), 0);
+                    Desk.due(text + " behind " + one + " and " + other, looksOfStreams(desk), due);
+                }
+                Desk desk = new Desk();
+                desk.build(one);
+                desk.count(40);
+                desk.feed("xyxyx");
+                Desk.due("build", desk.build(text), 0);
+                Desk.due(text + " behind " + one, looksOfStreams(desk), due);
+            }
+            for (String other : refused) {
+                Desk desk = new Desk();
+                desk.build(other);
+                Desk.due("build", desk.build(text), 0);
+                Desk.due("refused", desk.build(other) < 0, true);
+                Desk.due(text + " before " + other, looksOfStreams(desk), due);
+            }
+        }
     }
 
     /** What there was, and its stream, stay: behind each fault, FULL and CONFLICT. */

@@ -15,6 +15,7 @@ public final class FaultEdgesTest {
         fault7OfSymbols();
         fault7OfRules();
         fault7OfEmptyRows();
+        fault7OfAWholeTape();
         fault8();
         fault9();
         states();
@@ -275,6 +276,32 @@ public final class FaultEdgesTest {
         Desk desk = new Desk();
         Desk.due("60 are no fault", desk.build("W:" + Desk.times("|", 59) + ";"), -3);
         Desk.due("the next rule", desk.conflict(3), 1);
+    }
+
+    /** Names of two bytes, with what comes behind each, up to so many bytes. */
+    private static String names(char first, String behind, int room) {
+        String second = "0123456789abcdefghijklmnopqrstuvwxyz";
+        StringBuilder text = new StringBuilder();
+        for (int k = 0; text.length() + 2 + behind.length() <= room; k++) {
+            text.append((char) (first + k / 36)).append(second.charAt(k % 36)).append(behind);
+        }
+        return text.toString();
+    }
+
+    /** As many symbols, tokens and names in rows as a tape can tell: the last one is told, too. */
+    private static void fault7OfAWholeTape() {
+        StringBuilder symbols = new StringBuilder("A:Zz;");
+        for (char name = 'B'; name <= 'Z'; name++) {
+            symbols.append(name).append(":;");
+        }
+        symbols.append(names('A', ":;", 1996 - symbols.length()));
+        faulty(symbols + "Zz:;", 7, 5 + 25 * 3 + 4 * 4);
+        faulty(symbols + "Zy:;", 3, 2);
+        String tokens = "A:zz;" + names('a', "=x;", 1990);
+        faulty(tokens + "zz=x;", 7, 5 + 24 * 5);
+        faulty(tokens + "zy=x;", 3, 2);
+        faulty("a=x;S:" + Desk.times("a|", 990) + "b;", 7, 6 + 60 * 2);
+        faulty("a=x;S:b|" + Desk.times("a|", 990) + ";", 3, 6);
     }
 
     /** 8 no symbol is told (at the text's end). */

@@ -18,6 +18,7 @@ public final class MadeEdgesTest {
         manyOfTheTape();
         manyPlaces();
         statesThatLeadToOne();
+        machinesOfManyPlaces();
         numbers();
         rule();
         ruleOfEachLength();
@@ -28,6 +29,7 @@ public final class MadeEdgesTest {
         countLowestBits();
         countOfLengths();
         countInAnyOrder();
+        countOfManySymbols();
         Desk.end();
     }
 
@@ -230,8 +232,8 @@ public final class MadeEdgesTest {
 
     /** The atoms of all EXPs that are no brackets, each as it stands. */
     private static void manyPlaces() {
-        String[] texts = {"a=x;", "a=xx;", "a=x|x|x;", "a=(x);", "a=((x)(y));", "a=.;", "a=[a-z0-9];", "a=[^a];", "a=\\n;",
-            "a=x+;", "a=x?y*z+;", "a=x;b=x;", "-a=x;", "a=((((((x))))));", "a=(x|(y)(z))(.[u])+\\_;"};
+        String[] texts = {"a=x;", "a=xx;", "a=x|x|x;", "a=(x);", "a=((x)(y));", "a=.;", "a=[a-z0-9];", "a=[^a];",
+            "a=\\n;", "a=x+;", "a=x?y*z+;", "a=x;b=x;", "-a=x;", "a=((((((x))))));", "a=(x|(y)(z))(.[u])+\\_;"};
         int[] places = {1, 2, 3, 1, 2, 1, 1, 1, 1, 1, 3, 2, 1, 1, 6};
         for (int k = 0; k < texts.length; k++) {
             Desk.due("places of " + texts[k], Desk.made(texts[k] + "S:;").many(3), places[k]);
@@ -260,8 +262,32 @@ public final class MadeEdgesTest {
         // Ways back: from each of the circle's states the one at its end is come to.
         hopeful("a=(xyz)+u;S:a;", 5, 5);
         hopeful("a=(xyz)+" + none + ";S:a;", 4, 0);
+        // The way to the end leads back over the first state behind x.
+        hopeful("a=(xyz)*xu;S:a;", 5, 5);
+        hopeful("a=(xyzu)*xv|(xyzu)*" + none + ";S:a;", 6, 6);
         // It FINDS another token, though not this one.
         hopeful("a=x;b=x" + none + "?;S:a;", 2, 2);
+    }
+
+    /** Bytes that differ at one place alone, and states that are come to again, however many places there are. */
+    private static void machinesOfManyPlaces() {
+        for (int n : new int[] {1, 62, 63, 64, 65, 127, 128, 129, 191, 192, 320, 397, 398}) {
+            for (char last : "xy".toCharArray()) {
+                char other = last == 'x' ? 'y' : 'x';
+                Desk desk = Desk.made("a=" + Desk.times("[xy]", n) + last + ";S:a;");
+                Desk.due("states", desk.many(4), n + 2);
+                desk.feed(Desk.times("" + other, n) + last);
+                Desk.due(last + " is the last one", desk.finish(), 0);
+                desk.reset();
+                desk.feed(Desk.times("" + last, n) + other);
+                Desk.due(other + " is not", desk.finish(), 1);
+            }
+            Desk round = Desk.made("a=(" + Desk.times("x", n) + ")+y;S:a;");
+            Desk.due("states of a round", round.many(4), n + 2);
+            Desk.due("places of it", round.many(3), n + 1);
+            round.feed(Desk.times("x", 2 * n) + "y");
+            Desk.due("twice", round.finish(), 0);
+        }
     }
 
     /** NUMBERS 0, 1, .. as they are told (symbols by their first statement), RULES in the order of the text. */
@@ -413,6 +439,20 @@ public final class MadeEdgesTest {
         Desk.due("40", long40.count(40), 1);
         Desk long41 = Desk.made("a=x;b=y;S:T T T T T b;T:a a a a a a a a;");
         Desk.due("40", long41.count(40), 0);
+        // Rows of eight, with other rules before and behind them.
+        Desk eight = Desk.made("a=x;b=y;S:T T T T T T T T;T:a|b;");
+        for (int n = 0; n <= 16; n++) {
+            Desk.due("eight of two: " + n, eight.count(n), n == 8 ? 256 : 0);
+        }
+        Desk more = Desk.made("a=x;b=y;c=z;S:a T T T T T T T|b S|;T:c U;U:a U b b b b b b|;");
+        long[] counts = new long[23];
+        for (int n = 0; n < counts.length; n++) {
+            counts[n] = more.count(n);
+        }
+        Desk.due("b and so on alone", counts[7], 1);
+        Desk.due("one by a", counts[8], 2);
+        Desk.due("two by a", counts[9], 2);
+        Desk.due("a U b b b b b b in one of seven", counts[15], 2 + 7);
         // Tokens, not bytes; SKIPPED ones are in no row.
         Desk bytes = Desk.made("a=xyz;-s=u;S:a a;");
         Desk.due("two", bytes.count(2), 1);
@@ -425,10 +465,29 @@ public final class MadeEdgesTest {
         for (int n : order) {
             Desk.due("count " + n, desk.count(n), BigInteger.valueOf(3).pow(n).longValue());
         }
+        // S is U as a whole, which is known behind T alone.
+        Desk late = Desk.made("a=x;b=y;S:T U;T:a|;U:V;V:b V|;");
+        for (int n = 0; n <= 40; n++) {
+            Desk.due("late " + n, late.count(n), n == 0 ? 1 : 2);
+        }
         // Rules whose rows are told later, and a row that is another symbol as a whole.
         Desk chain = Desk.made("a=x;b=y;c=z;S:T;T:U V;U:W;V:c U b V|;W:a|;");
         for (int n = 40; n >= 0; n--) {
             Desk.due("chain " + n, chain.count(n), chainRows(n));
+        }
+    }
+
+    private static void countOfManySymbols() {
+        StringBuilder text = new StringBuilder("a=x;");
+        for (int k = 0; k < 30; k++) {
+            text.append('S').append(k).append(k == 29 ? ":a|;" : ":a S" + (k + 1) + "|;");
+        }
+        Desk desk = new Desk();
+        for (int round = 0; round < 3; round++) {
+            Desk.due("build", desk.build(text.toString()), 0);
+            for (int n : new int[] {0, 29, 30, 31, 40}) {
+                Desk.due("30 at most: " + n, desk.count(n), n <= 30 ? 1 : 0);
+            }
         }
     }
 

@@ -33,6 +33,7 @@ public final class StreamEdgesTest {
         finishAgain();
         resetAnswersBytes();
         resetOfEachState();
+        resetPutsTheStartAnew();
         stream();
         placeOfTheError();
         tokensThatWent();
@@ -43,6 +44,7 @@ public final class StreamEdgesTest {
         expected();
         expectedIsFalse();
         expectedAtTheEdges();
+        expectedPutsAllBack();
         skippedTokens();
         Desk.end();
     }
@@ -531,6 +533,25 @@ public final class StreamEdgesTest {
         }
     }
 
+    /** The pile holds THE START at first, which is in no row. */
+    private static void resetPutsTheStartAnew() {
+        Desk desk = Desk.made("a=x;b=y;S:a b a T;T:b T|;");
+        desk.feed("xyxyyyy");
+        Desk.due("a symbol of a row is left", desk.stream(6), 1);
+        for (int k = 0; k < 2; k++) {
+            if (k == 1) {
+                desk.finish();
+            }
+            desk.reset();
+            desk.feed("xy");
+            int[] due = {0, -1, 0, 0};
+            for (int what = 0; what < 4; what++) {
+                Desk.due("THE START, " + what, desk.noted(0, what), due[what]);
+            }
+            desk.feed("xyyy");
+        }
+    }
+
     /** Of the stream: what = 0 .. 6. BAD. */
     private static void stream() {
         Desk desk = Desk.made("a=x;S:a S|;");
@@ -727,6 +748,26 @@ public final class StreamEdgesTest {
         end.reset();
         end.feed("yy");
         end.expectedIs("THE END alone", 2, 0b100);
+    }
+
+    private static void expectedPutsAllBack() {
+        Desk desk = Desk.made("a=x;b=y;c=z;S:a T U b;T:c U T a|;U:V V V b;V:;");
+        desk.feed("xx");
+        int[][] due = {{0, -1, 0, 0}, {1, 0, 1, 1}, {3, 1, 1, 2}, {4, 2, 0, 2}, {4, 2, 1, 2}, {4, 2, 2, 2},
+            {2, 1, 2, 3}, {3, 0, 2, 4}};
+        desk.reset();
+        for (String bytes : new String[] {"x", "z", "y", "x", "y", "y", ""}) {
+            desk.feed(bytes);
+            for (int token = 0; token <= 3; token++) {
+                desk.expected(token);
+            }
+        }
+        Desk.due("finish", desk.finish(), 0);
+        for (int k = 0; k < due.length; k++) {
+            for (int what = 0; what < 4; what++) {
+                Desk.due("noted " + k + " " + what, desk.noted(k, what), due[k][what]);
+            }
+        }
     }
 
     /** A token that is not SKIPPED goes to the parser at once. */

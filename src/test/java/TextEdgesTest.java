@@ -78,8 +78,8 @@ public final class TextEdgesTest {
 
     /** Blanks may stand wherever something ends or begins. */
     private static void blanksInEachGap() {
-        String[] pieces = {"", "-", "w", "=", "\\_", ";", "n", "=", "[", "^", "^", "a", "-", "c", "\\t", "-", "\\n", "]",
-            "+", "|", "(", "b", "?", "(", ".", ")", "*", "|", "c", ")", "y", ";", "S", ":", "n", "T", "|", ";",
+        String[] pieces = {"", "-", "w", "=", "\\_", ";", "n", "=", "[", "^", "^", "a", "-", "c", "\\t", "-", "\\n",
+            "]", "+", "|", "(", "b", "?", "(", ".", ")", "*", "|", "c", ")", "y", ";", "S", ":", "n", "T", "|", ";",
             "T", ":", "n", "|", ";", ""};
         Desk tight = Desk.made(String.join("", pieces));
         for (int blank : BLANKS) {

@@ -55,7 +55,7 @@ public final class WildCallsTest {
         int b = any(random);
         switch (random.nextInt(24)) {
             case 0:
-                return x.type(random.nextInt(5) == 0 ? random.nextLong() : Desk.packed(" "), random.nextInt(5) == 0 ? a : 1);
+                return random.nextInt(5) == 0 ? x.type(random.nextLong(), a) : x.type(' ', 1);
             case 1:
                 return x.build();
             case 2:
