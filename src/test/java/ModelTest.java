@@ -5,7 +5,7 @@ import java.util.Set;
 
 /** Random texts and streams: the class must answer what the model does. */
 public final class ModelTest {
-    private static final int RUNS = 3000;
+    private static final int RUNS = 6000;
 
     private static String told = "";
     private static final int[] outcomes = new int[14];
